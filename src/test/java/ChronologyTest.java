@@ -13,6 +13,8 @@ public final class ChronologyTest {
         contradiction();
         contradictionAwayFromTheCouple();
         placesOutOfRange();
+        askedAgainAfterAnEdit();
+        twentyFourCouples();
         due.end();
     }
 
@@ -160,5 +162,50 @@ public final class ChronologyTest {
             due.is("coupleInOrder(" + negative + ")", x.coupleInOrder(negative), -1);
             due.is("generation(" + negative + ")", x.generation(negative), -1);
         }
+    }
+
+    private static void askedAgainAfterAnEdit() {
+        DieStudy x = new DieStudy();
+        x.addSpecimen(0, 0, 0, 0);
+        x.addSpecimen(0, 1, 1, 0);
+        x.addSpecimen(0, 2, 2, 0);
+        due.is("before: generation(2)", x.generation(2), 2);
+        x.setWear(2, 0, 0);
+        due.is("after: generation(2)", x.generation(2), 0);
+        due.is("after: generation(1)", x.generation(1), 1);
+        x.removeSpecimen(0);
+        due.is("fewer: coupleInOrder(0)", x.coupleInOrder(0), 1);
+        due.is("fewer: coupleInOrder(1)", x.coupleInOrder(1), 0);
+        due.is("fewer: coupleInOrder(2)", x.coupleInOrder(2), -3);
+    }
+
+    /** Couples of four obverse dies with six reverse dies each, all of which wear in the order of the numbers. */
+    private static void twentyFourCouples() {
+        DieStudy x = new DieStudy();
+        for (int i = 23; i >= 0; i--) {
+            x.addSpecimen(i / 6, i % 6, i % 6, i / 6);
+        }
+        due.is("24: isConsistent()", x.isConsistent(), 1);
+        for (int i = 0; i < 24; i++) {
+            due.is("24: coupleInOrder(" + i + ")", x.coupleInOrder(i), i);
+            due.is("24: generation(" + i + ")", x.generation(i), i / 6 + i % 6);
+        }
+        due.is("24: coupleInOrder(24)", x.coupleInOrder(24), -3);
+        due.is("24: generation(24)", x.generation(24), -3);
+        due.is("24: compareCouples(0, 23)", x.compareCouples(0, 23), 0);
+        due.is("24: compareCouples(23, 22)", x.compareCouples(23, 22), 2);
+        due.is("24: compareCouples(23, 24)", x.compareCouples(23, 24), -1);
+        closeARing(x);
+        due.is("24 with a ring: isConsistent()", x.isConsistent(), 0);
+        due.is("24 with a ring: coupleInOrder(0)", x.coupleInOrder(0), -4);
+        due.is("24 with a ring: generation(23)", x.generation(23), -4);
+        due.is("24 with a ring: generation(24)", x.generation(24), -3);
+    }
+
+    /** Makes couple 11 earlier than 10, and 10 earlier than 0, which is earlier than 1 and that than 11. */
+    private static void closeARing(DieStudy x) {
+        x.setWear(23 - 7, 0, 0);
+        x.setWear(23 - 6, 0, 1);
+        x.setWear(23, 1, 5);
     }
 }

@@ -10,6 +10,7 @@ public final class LinksTest {
         twoRingsOverABridge();
         componentSizeWithErrors();
         twentyFourCouples();
+        fewerCouplesThanBefore();
         due.end();
     }
 
@@ -105,6 +106,17 @@ public final class LinksTest {
         due.is("componentSize(1, 0)", x.componentSize(1, 0), 2);
     }
 
+    private static void fewerCouplesThanBefore() {
+        DieStudy x = study(0, 1, 2, 3);
+        due.is("before: bridgeCount()", x.bridgeCount(), 4);
+        x.removeSpecimen(3);
+        x.removeSpecimen(2);
+        due.is("fewer: bridgeCount()", x.bridgeCount(), 2);
+        due.is("fewer: componentSize(0, 0)", x.componentSize(0, 0), 3);
+        due.is("fewer: componentSize(1, 3)", x.componentSize(1, 3), -3);
+        due.is("fewer: coupleAt(2)", x.coupleAt(2), -3);
+    }
+
     private static void twentyFourCouples() {
         DieStudy x = new DieStudy();
         for (int i = 0; i < 24; i++) {
@@ -116,5 +128,8 @@ public final class LinksTest {
         due.is("24: coupleAt(24)", x.coupleAt(24), -3);
         due.is("24: cycleRank()", x.cycleRank(), 15);
         due.is("24: componentSize(0, 5)", x.componentSize(0, 5), 10);
+        due.is("24: componentCount()", x.componentCount(), 1);
+        due.is("24: bridgeCount()", x.bridgeCount(), 0);
+        due.is("24: isBridge(23)", x.isBridge(23), 0);
     }
 }

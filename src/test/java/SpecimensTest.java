@@ -12,10 +12,12 @@ public final class SpecimensTest {
         addSpecimenWithWrongArguments();
         addSpecimenToAFullStudy();
         removeSpecimen();
+        removeFromAFullStudy();
         setWear();
         setWearWithWrongArguments();
         mergeDies();
         mergeDiesOfOneSideOnly();
+        mergeDiesAfterRemoving();
         mergeDiesWithErrors();
         dieOfWithWrongArguments();
         due.end();
@@ -123,6 +125,21 @@ public final class SpecimensTest {
         due.is("add after all are gone", x.addSpecimen(4, 4, 4, 4), 0);
     }
 
+    private static void removeFromAFullStudy() {
+        DieStudy x = new DieStudy();
+        for (int i = 0; i < 24; i++) {
+            x.addSpecimen(i % 10, i / 3, i % 6, i % 5);
+        }
+        due.is("merge in a full study", x.mergeDies(0, 3, 4), 3);
+        due.is("undo()", x.undo(), 4);
+        for (int left = 23; left >= 0; left--) {
+            int gone = 23 - left;
+            due.is("full: remove(0)", x.removeSpecimen(0), left);
+            due.is("full: first obverse", x.dieOf(0, 0), left == 0 ? -1 : (gone + 1) % 10);
+            due.is("full: last reverse", x.dieOf(left - 1, 1), left == 0 ? -1 : 7);
+        }
+    }
+
     private static void setWear() {
         DieStudy x = fourSpecimens();
         due.is("setWear(2, 0, 5)", x.setWear(2, 0, 5), 2);
@@ -177,6 +194,16 @@ public final class SpecimensTest {
         due.is("wear stays", x.setWear(0, 1, 0), 2);
         due.is("known on the obverse, not on the reverse", x.mergeDies(1, 3, 4), -3);
         due.is("known on the obverse", x.mergeDies(0, 3, 4), 1);
+    }
+
+    private static void mergeDiesAfterRemoving() {
+        DieStudy x = new DieStudy();
+        x.addSpecimen(1, 1, 0, 0);
+        x.addSpecimen(1, 2, 0, 0);
+        x.removeSpecimen(1);
+        due.is("merge counts no specimen that is gone", x.mergeDies(0, 1, 2), 1);
+        x.removeSpecimen(0);
+        due.is("merge a die that is gone", x.mergeDies(0, 2, 1), -3);
     }
 
     private static void mergeDiesWithErrors() {
