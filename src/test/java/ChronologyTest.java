@@ -202,7 +202,7 @@ public final class ChronologyTest {
         due.is("24 with a ring: generation(24)", x.generation(24), -3);
     }
 
-    /** Makes couple 11 earlier than 10, and 10 earlier than 0, which is earlier than 1 and that than 11. */
+    /** Makes dies 1/1 earlier than 1/0 and these earlier than 0/0, which come before 0/1 and those before 1/1. */
     private static void closeARing(DieStudy x) {
         x.setWear(23 - 7, 0, 0);
         x.setWear(23 - 6, 0, 1);
