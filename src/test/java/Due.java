@@ -2,17 +2,27 @@
 final class Due {
     private int asked = 0;
     private int wrong = 0;
+    private String about = "";
+
+    /** What the answers that follow are due by; printed with those that are wrong. */
+    void about(String sentence) {
+        about = sentence + ": ";
+    }
 
     void is(String call, long got, long want) {
         asked++;
         if (got != want) {
             wrong++;
-            System.out.println(call + " answered " + got + ", due is " + want);
+            System.out.println(about + call + " answered " + got + ", due is " + want);
         }
     }
 
     void holds(String claim, boolean holds) {
         is(claim, holds ? 1 : 0, 1);
+    }
+
+    int asked() {
+        return asked;
     }
 
     int wrong() {
