@@ -360,7 +360,7 @@ final class BoundariesOfDescription {
         due.is("generation of -1", x.generation(-1), -1);
     }
 
-    /** RefusedCallsTest holds this sentence for every call that can be refused. */
+    /** RefusedCallsTest holds this sentence for every error that each method can answer. */
     private void refusedEdits() {
         document.hold("Description", "A call that returns an error changes nothing and is no edit.");
         DieStudy x = Studies.ofOneCouple(24);

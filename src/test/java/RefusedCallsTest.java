@@ -4,7 +4,7 @@ import java.util.function.Supplier;
 import java.util.function.ToIntFunction;
 
 /**
- * 'A call that returns an error changes nothing and is no edit': every call that can be refused, in studies at the
+ * 'A call that returns an error changes nothing and is no edit': every error that each method can answer, in studies at the
  * document's bounds, and what all the other methods answer after it, now and as far back as can be undone.
  */
 public final class RefusedCallsTest {
