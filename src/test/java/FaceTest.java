@@ -6,7 +6,7 @@ import java.util.Arrays;
 import java.util.Set;
 import java.util.TreeSet;
 
-/** The public face of the document, and rule 1 of LANGUAGE.md: this face and nothing else. */
+/** The public face of the document, and rules 1 and 11 of LANGUAGE.md: this face and nothing else, in small classes. */
 public final class FaceTest {
     private static final Due due = new Due();
     private static final Set<String> METHODS = new TreeSet<>(Arrays.asList(
@@ -66,11 +66,27 @@ public final class FaceTest {
     }
 
     private static void classesInside() {
+        small(DieStudy.class);
         for (Class<?> inside : DieStudy.class.getDeclaredClasses()) {
+            small(inside);
+            for (Method method : inside.getDeclaredMethods()) {
+                due.holds(method + " has a name of its own",
+                        METHODS.stream().noneMatch(name -> name.replaceAll("\\d$", "").equals(method.getName())));
+            }
             int modifiers = inside.getModifiers();
             due.holds(inside + " is static and not public", Modifier.isStatic(modifiers)
                     && !Modifier.isPublic(modifiers) && !Modifier.isProtected(modifiers));
         }
         due.holds("at most twelve classes", DieStudy.class.getDeclaredClasses().length < 12);
+    }
+
+    /** Rule 11: a method's parameters and a class's fields. */
+    private static void small(Class<?> one) {
+        for (Method method : one.getDeclaredMethods()) {
+            due.holds(method + " takes at most seven", method.getParameterCount() <= 7);
+        }
+        long fields = Arrays.stream(one.getDeclaredFields())
+                .filter(field -> !Modifier.isStatic(field.getModifiers())).count();
+        due.holds(one + " has at most twenty fields", fields <= 20);
     }
 }

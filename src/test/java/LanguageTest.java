@@ -12,6 +12,8 @@ public final class LanguageTest {
         "->|::",
         "\\b(Float|Double|Object|Exception|Throwable|Random|Thread|HashMap)\\b",
         "\\bSystem\\.(?!arraycopy\\b)",
+        "\\bArrays\\.(?!(copyOf|copyOfRange|fill)\\b)",
+        "\\bMath\\.(?!(min|max|abs|floorDiv|floorMod)\\b)",
         "Exact\\s*\\(",
         "\\b(hashCode|toString|equals)\\s*\\(",
         "\\bpackage\\b",
@@ -28,7 +30,30 @@ public final class LanguageTest {
             due.holds("no match of " + rule, !found.find());
         }
         staticFieldsAreConstants(code);
+        objectsAreMadeWithTheStudyAlone(code);
+        methodsAreShort(code);
         due.end();
+    }
+
+    /** Rule 12 counts what a run makes: here only rows of a study and, in its constructor, its parts. */
+    private static void objectsAreMadeWithTheStudyAlone(String code) {
+        Pattern made = Pattern.compile(" *private final int(\\[\\])+ \\w+ = new int(\\[[\\w. *]+\\])+;");
+        Pattern part = Pattern.compile(" {8}\\w+ = new \\w+\\(\\);");
+        String constructor = code.replaceAll("(?s).*?(public DieStudy\\(\\) \\{.*?\n    \\}).*", "$1");
+        code.lines().filter(line -> line.matches(".*\\b(new|clone|copyOf|copyOfRange)\\b.*")).forEach(line ->
+                due.holds("made with the study: " + line, made.matcher(line).matches()
+                        || part.matcher(line).matches() && constructor.contains(line)));
+    }
+
+    private static void methodsAreShort(String code) {
+        Matcher method = Pattern.compile("(?ms)^( +)(public|private)[^;=\n]*\\) \\{$(.*?)^\\1\\}$").matcher(code);
+        int methods = 0;
+        while (method.find()) {
+            methods++;
+            due.holds("sixty lines: " + method.group().lines().findFirst().orElse(""),
+                    method.group(3).lines().count() <= 60);
+        }
+        due.holds("methods were found", methods > 25);
     }
 
     private static void staticFieldsAreConstants(String code) {
